@@ -18,8 +18,8 @@ public final class ProphetFines {
 
     private static final int LOVER = 2, ALMANAC = 3, ORACLE = 4, FOOL = 5;
     private static final int KINDS = 6, NO_KIND = -1;
-    /** For each KIND the one that it is, too. */
-    private static final int[] WIDER_KIND = {NO_KIND, 0, 1, 1, 0, 4};
+    /** For each KIND the nearest one that it is, too. */
+    private static final int[] WIDER_KIND = {-1, 0, 1, 1, 0, 4};
     /** The letters of SORTS, each at the place of its KIND. */
     private static final String SORTS = ".wlaoi";
 
@@ -327,7 +327,7 @@ public final class ProphetFines {
         long sets = foresight.setsFined(rows.items[row], i);
         switch (what) {
             case 0: return unfound(Long.bitCount(sets));
-            case 1: return unfound(sets == 0 ? NONE : Long.numberOfTrailingZeros(sets));
+            case 1: return unfound(foresight.leastSet(sets));
             default: return unfound(sets == 0 ? NONE : foresight.sureEvents(sets));
         }
     }
@@ -551,10 +551,13 @@ public final class ProphetFines {
             return length;
         }
 
-        /** Whether there was no FAULT; with one, at is left on its place. */
+        /**
+         * Whether there was no FAULT; with one, at is left on its place. Nothing ever comes, or is said,
+         * in what is read into, so that its YEAR, PURSES and records are 0 still.
+         */
         boolean readInto(Republic to) {
             at = 0;
-            to.clear();
+            to.prophets = 0;
             return readLaw(to) && readEvents(to) && readProphets(to);
         }
 
@@ -664,16 +667,6 @@ public final class ProphetFines {
         final int[] wrong = new int[MOST_PROPHETS];
         final int[] who = new int[MOST_SAYINGS];
         final int[] wording = new int[MOST_SAYINGS];
-
-        void clear() {
-            events = 0;
-            prophets = 0;
-            standing = 0;
-            years = 0;
-            Arrays.fill(purse, 0);
-            Arrays.fill(right, 0);
-            Arrays.fill(wrong, 0);
-        }
 
         void copyFrom(Republic other) {
             rate = other.rate;
@@ -976,7 +969,8 @@ public final class ProphetFines {
 
     /** What can be told ahead of a YEAR; nothing of the REPUBLIC is changed here. */
     private static final class Foresight {
-        static final int MOST_WORDINGS = 57;
+        /** NO_SUM is far above what three WORDINGS can cost. */
+        static final int MOST_WORDINGS = 57, NO_SUM = 1000000;
 
         final Republic republic;
         final Ledger ledger;
@@ -1124,9 +1118,9 @@ public final class ProphetFines {
         boolean findGroup(int n) {
             listWordings();
             groupSize = n;
-            groupSum = Integer.MAX_VALUE;
-            pickFrom(0, 0, 0, 0);
-            return groupSum < Integer.MAX_VALUE;
+            groupSum = NO_SUM;
+            pickFrom(0, 0, republic.allSets(), 0);
+            return groupSum < NO_SUM;
         }
 
         int groupCode(int k) {
@@ -1146,18 +1140,21 @@ public final class ProphetFines {
         }
 
         /** Groups come in their order, so that only a lesser sum takes the place of the first. */
-        private void pickFrom(int depth, int from, long covered, int sum) {
-            if (depth == groupSize) {
-                if (covered == republic.allSets()) {
-                    groupSum = sum;
-                    System.arraycopy(picked, 0, group, 0, groupSize);
-                }
+        private void pickFrom(int depth, int from, long missing, int sum) {
+            if (depth >= groupSize) {
                 return;
             }
             for (int w = from; w < wordings; w++) {
-                if (sum + costs[w] < groupSum) {
+                int sumWith = sum + costs[w];
+                if (sumWith < groupSum) {
                     picked[depth] = w;
-                    pickFrom(depth + 1, w, covered | sets[w], sum + costs[w]);
+                    long missingYet = missing & ~sets[w];
+                    if (depth + 1 == groupSize && missingYet == 0) {
+                        groupSum = sumWith;
+                        System.arraycopy(picked, 0, group, 0, groupSize);
+                    } else if (depth + 1 < groupSize) {
+                        pickFrom(depth + 1, w, missingYet, sumWith);
+                    }
                 }
             }
         }
@@ -1184,6 +1181,15 @@ public final class ProphetFines {
             return true;
         }
 
+        int leastSet(long some) {
+            for (int set = 0; set < republic.setCount(); set++) {
+                if (isIn(some, set)) {
+                    return set;
+                }
+            }
+            return NONE;
+        }
+
         /** The EVENTS that come in all of some sets, or in none of them. */
         int sureEvents(long some) {
             int sure = 0;
@@ -1201,9 +1207,9 @@ public final class ProphetFines {
     private static final class Asked {
         static final int SIZE_ASKED = 0, MARK_ASKED = 1;
         static final int MOST_TRACED = 16, MOST_DEEP = 16, UNTOLD = 0;
-        /** The BODY told for each KIND. */
-        private static final int[] SIZE_BODIES = {10, 11, 12, UNTOLD, 13, 14};
-        private static final int[] MARK_BODIES = {20, 21, 24, 22, 23, UNTOLD};
+        /** The BODY told for each KIND; that of KIND 0 is the one that is lent, so one is always found. */
+        private static final int[] SIZE_BODIES = {10, 11, 12, 0, 13, 14};
+        private static final int[] MARK_BODIES = {20, 21, 24, 22, 23, 0};
 
         final Republic republic;
         final int[] trace = new int[MOST_TRACED];

@@ -145,7 +145,7 @@ public final class ForetoldTest {
         fresh.say(W, NOT, 0, 0);
         fresh.say(W, SURE, 0, 0);
         CHECK.due("shut, asked for at first", fresh.shut(), 1);
-        CHECK.due("the first, of the first two", fresh.loopholes(1), 1);
+        expectLoopholes(fresh, 1, 1, 1);
         fresh.unsay();
         CHECK.due("no loophole any more", fresh.shut(), 0);
         fresh.say(W, EITHER, 0, 1);
@@ -205,7 +205,7 @@ public final class ForetoldTest {
         ProphetFines x = Check.told(ALL_KINDS);
         x.say(W, SURE, 0, 0);
         x.say(L, SURE, 1, 1);
-        Check.fill(x, 0, 37, -1, -1, -1, -1, 99);
+        Check.fill(x, 0, 37, -1, -1, -1, -1, -2);
         expectCould(x, "event 0 came", 0, 2, 1, 1);
         Check.fill(x, 0, 37, 0, -1, -1, -1);
         expectCould(x, "event 0 alone came", 0, 1, 1, 3);

@@ -145,9 +145,10 @@ public final class TextTest {
         expectFault(prophets + ";", 23, 1);
     }
 
-    /** Whatever is missing at the end, the place is how many bytes there are. */
+    /** Whatever is missing at the end, the place is how many bytes there are, whatever stood behind them before. */
     private static void theEnd() {
         String whole = "f12,34;v15;w16;";
+        ProphetFines x = Check.told(whole);
         for (int n = 0; n < whole.length(); n++) {
             String part = whole.substring(0, n);
             boolean isWhole = part.equals("f12,34;v15;");
@@ -155,6 +156,7 @@ public final class TextTest {
                 expectRead(part, 1, 0);
             } else {
                 expectFault(part, n, 1);
+                CHECK.due(part + " behind a whole one", Check.tell(x, part), -1000100 - n);
             }
         }
     }
