@@ -142,6 +142,10 @@ public final class ForetoldTest {
         last.say(W, SURE, 0, 0);
         expectLoopholes(last, 1, 12 * 10 + 11, 1 << 10);
         ProphetFines fresh = Check.told(ALL_KINDS);
+        fresh.say(W, NOT, 1, 1);
+        fresh.say(W, SURE, 1, 1);
+        CHECK.due("the first, asked for at first", fresh.loopholes(1), 1);
+        fresh.year(0);
         fresh.say(W, NOT, 0, 0);
         fresh.say(W, SURE, 0, 0);
         CHECK.due("shut, asked for at first", fresh.shut(), 1);
