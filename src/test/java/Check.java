@@ -6,13 +6,19 @@ final class Check {
 
     private int checked = 0;
     private int wrong = 0;
+    private String sentence = "";
+
+    /** What is checked from here on is this sentence of the document. */
+    void says(String words) {
+        sentence = "'" + words + "': ";
+    }
 
     void due(String call, long got, long want) {
         checked++;
         if (got != want) {
             wrong++;
             if (wrong <= MOST_SHOWN) {
-                System.out.println(call + " answered " + got + ", due is " + want);
+                System.out.println(sentence + call + " answered " + got + ", due is " + want);
             }
         }
     }
@@ -46,6 +52,36 @@ final class Check {
             System.exit(1);
         }
         return x;
+    }
+
+    /** By set s the one PROPHET is fined just s, so the least set for an ITEM of 0 to 31 is the ITEM. */
+    static final String READER = "f5,0;v19;v18;v16;v12;v4;w0;";
+    static final int READ_BY = 5;
+
+    /** An object by which ITEMS can be looked at, for which the document has no call. */
+    static ProphetFines reader() {
+        ProphetFines x = told(READER);
+        sayAllOfReader(x);
+        return x;
+    }
+
+    static void sayAllOfReader(ProphetFines x) {
+        for (int e = 0; e < READ_BY; e++) {
+            x.say(0, 0, e, e);
+        }
+    }
+
+    /** ITEMS of a reader's row: 0 to 31 as they are, -1 as it is, BAD for less, NONE for more; then no more ITEMS. */
+    void dueItems(ProphetFines x, String name, int row, int... due) {
+        for (int i = 0; i < due.length; i++) {
+            due(name + ": item " + i, item(x, row, i), due[i]);
+        }
+        due(name + ": no more items", item(x, row, due.length), PLACE);
+    }
+
+    static int item(ProphetFines x, int row, int i) {
+        int fitting = x.could(row, i, 0);
+        return fitting == 1 ? x.could(row, i, 1) : fitting == 1 << READ_BY ? -1 : fitting == 0 ? NONE : fitting;
     }
 
     /** A row of ints, with these items. */

@@ -39,33 +39,17 @@ public final class RowsTest {
     }
 
     private static void newItemsAre0() {
-        ProphetFines x = reader();
+        ProphetFines x = Check.reader();
         x.row(0, 2, 3);
-        expectRow(x, "new", 0, 0, 0, 0);
+        CHECK.dueItems(x, "new", 0, 0, 0, 0);
         Check.fill(x, 0, 5, 6, 7);
-        expectRow(x, "filled", 0, 5, 6, 7);
+        CHECK.dueItems(x, "filled", 0, 5, 6, 7);
         x.row(0, 2, 3);
-        expectRow(x, "made anew", 0, 0, 0, 0);
+        CHECK.dueItems(x, "made anew", 0, 0, 0, 0);
         Check.fill(x, 0, 5, 6, 7);
         x.row(0, 2, 1);
         x.row(0, 2, 3);
-        expectRow(x, "shorter, then longer", 0, 0, 0, 0);
-    }
-
-    /** By set s the one PROPHET is fined just s, so the least set for an ITEM of 0 to 31 is the ITEM. */
-    private static ProphetFines reader() {
-        ProphetFines x = Check.told("f5,0;v19;v18;v16;v12;v4;w0;");
-        for (int e = 0; e < 5; e++) {
-            x.say(0, 0, e, e);
-        }
-        return x;
-    }
-
-    private static void expectRow(ProphetFines x, String name, int row, int... due) {
-        for (int i = 0; i < due.length; i++) {
-            CHECK.due(name + ": item " + i, x.could(row, i, 1), due[i]);
-        }
-        CHECK.due(name + ": no more items", x.could(row, due.length, 1), Check.PLACE);
+        CHECK.dueItems(x, "shorter, then longer", 0, 0, 0, 0);
     }
 
     private static void set() {
@@ -93,16 +77,16 @@ public final class RowsTest {
     }
 
     private static void copy() {
-        ProphetFines x = reader();
+        ProphetFines x = Check.reader();
         Check.fill(x, 0, 1, 2, 3, 4, 5);
         CHECK.due("upwards, over itself", x.copy(0, 0, 0, 1, 4), 4);
-        expectRow(x, "upwards", 0, 1, 1, 2, 3, 4);
+        CHECK.dueItems(x, "upwards", 0, 1, 1, 2, 3, 4);
         CHECK.due("downwards, over itself", x.copy(0, 1, 0, 0, 4), 4);
-        expectRow(x, "downwards", 0, 1, 2, 3, 4, 4);
+        CHECK.dueItems(x, "downwards", 0, 1, 2, 3, 4, 4);
         Check.fill(x, 1, 9, 9, 9);
         CHECK.due("to another", x.copy(0, 2, 1, 1, 2), 2);
-        expectRow(x, "to another", 1, 9, 3, 4);
-        expectRow(x, "the first stays", 0, 1, 2, 3, 4, 4);
+        CHECK.dueItems(x, "to another", 1, 9, 3, 4);
+        CHECK.dueItems(x, "the first stays", 0, 1, 2, 3, 4, 4);
         CHECK.due("none", x.copy(0, 5, 1, 3, 0), 0);
         CHECK.due("row 8", x.copy(8, 0, 1, 0, 1), Check.BAD);
         CHECK.due("row -1", x.copy(0, 0, -1, 0, 1), Check.BAD);
@@ -124,8 +108,8 @@ public final class RowsTest {
         CHECK.due("a sum that wraps", x.copy(0, Integer.MAX_VALUE, 1, 0, Integer.MAX_VALUE), Check.PLACE);
         CHECK.due("a sum that wraps", x.copy(0, 1, 1, 0, Integer.MAX_VALUE), Check.PLACE);
         CHECK.due("the least of all", x.copy(0, Integer.MIN_VALUE, 1, Integer.MIN_VALUE, Integer.MIN_VALUE), Check.PLACE);
-        expectRow(x, "what is found changes nothing", 0, 1, 2, 3, 4, 4);
-        expectRow(x, "what is found changes nothing", 1, 9, 3, 4);
+        CHECK.dueItems(x, "what is found changes nothing", 0, 1, 2, 3, 4, 4);
+        CHECK.dueItems(x, "what is found changes nothing", 1, 9, 3, 4);
     }
 
     private static void drop() {
