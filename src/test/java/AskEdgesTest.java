@@ -58,7 +58,7 @@ public final class AskEdgesTest {
     }
 
     private static void noSuchProphetOrKind() {
-        CHECK.says("as, ask: BAD");
+        CHECK.says("BAD; KIND: it is no such one .. An ASK (0, 1) of a PROPHET. BAD");
         for (int many = 1; many <= 5; many++) {
             ProphetFines x = Check.told("f1,0;v1;" + "w0;".repeat(many));
             CHECK.due("the last", x.as(many - 1, 1), many - 1);

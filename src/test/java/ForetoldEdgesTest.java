@@ -11,6 +11,8 @@ public final class ForetoldEdgesTest {
         fractionOf0();
         fractionInLowestTerms();
         fractionBelow0();
+        meanOverAllSets();
+        eachAskedAtFirst();
         fractionOfWhat();
         worstOfSeveral();
         worstThatIsAGain();
@@ -23,6 +25,7 @@ public final class ForetoldEdgesTest {
         firstLoophole();
         mostLoopholes();
         shutLeast();
+        shutOfNothing();
         groupOfOne();
         groupPlaces();
         groupsFirstOfSeveral();
@@ -39,6 +42,8 @@ public final class ForetoldEdgesTest {
         plainEdges();
         imagesOf0And1();
         restoreKeepsTheImage();
+        imagesStandApart();
+        imageIsOfTheRepublicAlone();
         CHECK.end();
     }
 
@@ -108,8 +113,69 @@ public final class ForetoldEdgesTest {
         expectMean("50 less 4 more", x, 1, 19 * (100 - 58) / 2, 10);
     }
 
+    /** What is TRUE when nothing comes, and when all comes, counts once. */
+    private static void meanOverAllSets() {
+        CHECK.says("the mean of NET of a YEAR, as SAYINGS stand: a fraction");
+        StringBuilder text = new StringBuilder("f20,0;");
+        for (int many = 1; many <= 6; many++) {
+            text.append("v5;");
+            ProphetFines x = Check.told(text + "w0;o0;o0;");
+            x.say(0, NOT, many - 1, many - 1);
+            expectMean("NOT", x, 0, -15, 1);
+            expectPremium("NOT", x, 0, 15, 1);
+            x.unsay();
+            x.say(0, SURE, 0, 0);
+            expectMean("SURE", x, 0, -15, 1);
+            expectPremium("SURE", x, 0, 15, 1);
+            x.unsay();
+            long fours = 1;
+            long threes = 1;
+            for (int e = 0; e < many; e++) {
+                x.say(1, SURE, e, e);
+                x.say(2, NOT, e, e);
+                fours *= 4;
+                threes *= 3;
+            }
+            int low = Integer.numberOfTrailingZeros(60 * many);
+            long divisor = Math.min(1L << low, fours);
+            expectMean("all of them", x, 1, -60 * many / divisor, fours / divisor);
+            low = Integer.numberOfTrailingZeros(20 * many);
+            divisor = Math.min(1L << low, fours);
+            expectMean("none of them", x, 2, -20 * many * threes / divisor, fours / divisor);
+        }
+    }
+
+    private interface Question {
+        long of(ProphetFines x);
+    }
+
+    private static void eachAskedAtFirst() {
+        CHECK.says("FORETOLD (nothing changes) [and nothing need be asked ahead]");
+        Question[] questions = {
+            x -> x.fine(1, 1), x -> x.net(0, 1), x -> x.expected(0, 0), x -> x.worst(0, 1), x -> x.loopholes(0),
+            x -> x.loopholes(1), x -> x.shut(), x -> x.could(0, 0, 1), x -> x.premium(1, 1), x -> x.plain(0), x -> x.year(1),
+            x -> x.cheapest(0, 0, 3), x -> x.group(2, -1)};
+        long[] due = {37, 6 - 37, -16, 6 - 37, 1, 1, 1, 1, 4, 0, 1, 100 * 30, 100 * 30 + 300 * 10};
+        long[] dueTheOtherWay = due.clone();
+        dueTheOtherWay[0] = 0;
+        dueTheOtherWay[7] = 0;
+        for (int n = 0; n < questions.length; n++) {
+            ProphetFines x = Check.told("f10,7;v5;w6;");
+            x.row(0, 2, 1);
+            x.set(0, 0, 37);
+            x.say(0, NOT, 0, 0);
+            x.say(0, SURE, 0, 0);
+            CHECK.due("question " + n, questions[n].of(x), due[n]);
+            x.year(0);
+            x.set(0, 0, 17);
+            x.say(0, SURE, 0, 0);
+            x.say(0, NOT, 0, 0);
+            CHECK.due("question " + n + ", said the other way", questions[n].of(x), dueTheOtherWay[n]);
+        }
+    }
+
     private static void fractionOfWhat() {
-        CHECK.says("what = 0, 1; BAD");
+        CHECK.says("can be below 0), below (1). BAD .. PREMIUM: above (what = 0), below (1). BAD .. WORST: the set (what = 0), NET (1). BAD .. PLAIN. BAD");
         ProphetFines x = Check.told("f20,50;v1;w0;");
         x.say(0, SURE, 0, 0);
         for (int no : new int[] {MIN, -1, 2, MAX}) {
@@ -151,7 +217,7 @@ public final class ForetoldEdgesTest {
     }
 
     private static void worstThatIsAGain() {
-        CHECK.says("WORST: the set of EVENTS by which his NET is least (above 0)");
+        CHECK.says("WORST: the set of EVENTS by which his NET is least [above 0]");
         ProphetFines x = Check.told("f1,0;v4;w50;");
         x.say(0, SURE, 0, 0);
         expectWorst("no gain", x, 0, 0);
@@ -306,7 +372,7 @@ public final class ForetoldEdgesTest {
     }
 
     private static void mostLoopholes() {
-        CHECK.says("LOOPHOLES: .. how many (12 stand)");
+        CHECK.says("LOOPHOLES: .. how many [12 stand]");
         ProphetFines x = Check.told("f1,0;v10;w0;");
         for (int n = 0; n < 12; n++) {
             x.say(0, n % 2 == 0 ? SURE : NOT, 0, 0);
@@ -346,6 +412,21 @@ public final class ForetoldEdgesTest {
         few.say(0, EITHER, 0, 5);
         few.say(0, NOT, 5, 5);
         expectLoopholes("and one of the last pair", few, 6, 3, 8 + 16 + 32);
+    }
+
+    private static void shutOfNothing() {
+        CHECK.says("SHUT. STATE: no REPUBLIC");
+        ProphetFines x = new ProphetFines();
+        CHECK.due("no republic", x.shut(), Check.STATE);
+        Check.tell(x, "f1,0;v1;");
+        CHECK.due("no prophets", x.shut(), 0);
+        Check.tell(x, EVEN_SIX);
+        CHECK.due("nothing said", x.shut(), 0);
+        x.say(0, SURE, 0, 0);
+        x.say(0, NOT, 0, 0);
+        CHECK.due("a pair", x.shut(), 1);
+        x.year(0);
+        CHECK.due("none stand behind a year", x.shut(), 0);
     }
 
     private static void expectGroup(String name, ProphetFines x, int n, int sum, int... wordings) {
@@ -399,6 +480,8 @@ public final class ForetoldEdgesTest {
         expectGroup("three of six", six, 3, 1000, wording(NOT, 0, 0), wording(BOTH, 0, 1), wording(EITHER, 0, 1));
         ProphetFines rare = Check.told("f5,0;v1;v1;");
         expectGroup("EVENT 0 ahead of 1", rare, 2, 380 + 380, wording(SURE, 0, 0), wording(NOT, 0, 0));
+        ProphetFines last = Check.told("f1,0;v10;v6;v7;v12;v11;v4;");
+        expectGroup("with the last wording of all", last, 3, 212, wording(NOT, 5, 5), wording(EITHER, 0, 4), wording(ONE, 4, 5));
         expectGroup("with BOTH", rare, 3, 380 + 380 + 19, wording(SURE, 0, 0), wording(NOT, 0, 0), wording(BOTH, 0, 1));
     }
 
@@ -417,7 +500,7 @@ public final class ForetoldEdgesTest {
     }
 
     private static void groupThatCostsNothing() {
-        CHECK.says("added, are least (of WORDINGS that cost nothing)");
+        CHECK.says("added, are least [of WORDINGS that cost nothing]");
         ProphetFines x = Check.told("f1,0;v16;");
         expectGroup("two", x, 2, 80 * 3, wording(SURE, 0, 0), wording(NOT, 0, 0));
         expectGroup("three", x, 3, 80 * 3, wording(SURE, 0, 0), wording(SURE, 0, 0), wording(NOT, 0, 0));
@@ -520,7 +603,7 @@ public final class ForetoldEdgesTest {
     }
 
     private static void couldWithoutProphets() {
-        CHECK.says("as many ITEMS as PROPHETS (none)");
+        CHECK.says("as many ITEMS as PROPHETS [none]");
         ProphetFines x = Check.told("f1,0;v1;v1;v1;");
         CHECK.due("a missing row", x.could(0, 0, 0), Check.NULL);
         x.row(0, 2, 2);
@@ -654,6 +737,75 @@ public final class ForetoldEdgesTest {
         CHECK.due("of two", x.count(1), 2);
     }
 
+    private static void expectAsKept(String name, ProphetFines x, int years, int chance, int form) {
+        CHECK.due(name + ": YEARS", x.count(4), years);
+        CHECK.due(name + ": PURSE", x.prophet(0, 0), years * (6 - 37));
+        CHECK.due(name + ": RIGHT", x.prophet(0, 1), years);
+        CHECK.due(name + ": WRONG", x.prophet(1, 2), years);
+        CHECK.due(name + ": ODDS", x.odds(SURE, 1, 1), 20 * chance);
+        CHECK.due(name + ": SAYINGS", x.count(3), 1);
+        CHECK.due(name + ": FORM", x.saying(0, 1), form);
+    }
+
+    private static void sayAndLetComeAYear(ProphetFines x) {
+        x.say(0, SURE, 0, 0);
+        x.say(1, NOT, 0, 0);
+        x.year(1);
+    }
+
+    private static void imagesStandApart() {
+        CHECK.says("The REPUBLIC is as an IMAGE kept it [whatever comes behind it, and from the other one]");
+        ProphetFines x = Check.told("f10,7;v5;v10;w6;w6;");
+        sayAndLetComeAYear(x);
+        x.chance(1, 11);
+        x.say(0, NOT, 1, 1);
+        x.image(0);
+        x.undo();
+        sayAndLetComeAYear(x);
+        x.chance(1, 12);
+        x.say(0, EITHER, 0, 1);
+        x.image(1);
+        for (int round = 0; round < 2; round++) {
+            x.restore(0);
+            expectAsKept("image 0", x, 1, 11, NOT);
+            x.chance(1, 19);
+            x.unsay();
+            sayAndLetComeAYear(x);
+            x.restore(1);
+            expectAsKept("image 1", x, 2, 12, EITHER);
+            x.unsay();
+            x.say(1, BOTH, 0, 1);
+            x.drawn(7);
+            x.chance(0, 1);
+        }
+        x.restore(0);
+        x.image(1);
+        x.unsay();
+        x.restore(1);
+        expectAsKept("image 1, kept anew of image 0", x, 1, 11, NOT);
+    }
+
+    private static void imageIsOfTheRepublicAlone() {
+        CHECK.says("An IMAGE (0, 1) is kept of the REPUBLIC");
+        ProphetFines x = Check.told(Check.READER);
+        Check.sayAllOfReader(x);
+        Check.fill(x, 0, 3);
+        x.image(0);
+        Check.tell(x, "f0");
+        Check.fill(x, 0, 4, 5);
+        x.row(6, 0, 1);
+        x.ask(0, 1);
+        Check.feedAll(x, "f1,");
+        x.set(6, 1, 0);
+        CHECK.due("restored", x.restore(0), 1);
+        CHECK.due("status() stays", x.status(), 2);
+        CHECK.due("fault() stays", x.fault(), 2);
+        CHECK.due("the trace stays", x.trace(0), 21);
+        CHECK.due("the tape stays", x.feed('0'), 4);
+        CHECK.due("rows stay", x.count(0), 2);
+        CHECK.dueItems(x, "items stay", 0, 4, 5);
+    }
+
     private static void restoreKeepsTheImage() {
         CHECK.says("The REPUBLIC is as an IMAGE kept it (no ACT can be undone then): 1");
         ProphetFines x = Check.told("f20,50;v1;v3;v5;v7;v9;v11;w50;l40;a30;o20;i10;");
@@ -688,6 +840,7 @@ public final class ForetoldEdgesTest {
             CHECK.due("chance of 5", x.odds(SURE, 5, 5), 380);
             for (int s = 0; s < 12; s++) {
                 CHECK.due("who said " + s, x.saying(s, 0), 4 - s % 5);
+                CHECK.due("FORM of " + s, x.saying(s, 1), NOT);
                 CHECK.due("e of " + s, x.saying(s, 2), s % 6);
             }
             CHECK.due("by the law", x.fine(4, 0), (400 - 20 * 11) * 20 / 100 + 50);

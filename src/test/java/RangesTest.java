@@ -87,7 +87,7 @@ public final class RangesTest {
     }
 
     private static void sayings() {
-        CHECK.says("A SAYING that stands; 12 at most stand");
+        CHECK.says("12 at most stand, in the order said");
         range("saying", 0, sayings - 1, (x, s) -> x.saying(s, 0));
         range("fine", 0, sayings - 1, (x, s) -> x.fine(s, 0));
         range("premium", 0, sayings - 1, (x, s) -> x.premium(s, 0));
@@ -106,7 +106,7 @@ public final class RangesTest {
     }
 
     private static void whats() {
-        CHECK.says("what is asked for; BAD");
+        CHECK.says("BAD (a number is not as told; there is no such thing)");
         range("loopholes", 0, 1, (x, what) -> x.loopholes(what));
         range("count", 0, 6, (x, what) -> x.count(what));
         for (int n = 1; n <= 3; n++) {
@@ -145,7 +145,7 @@ public final class RangesTest {
     }
 
     private static void others() {
-        CHECK.says("a number is not as told");
+        CHECK.says("BAD (a number is not as told");
         range("byte", 0, 255, (x, letter) -> x.feed(letter));
         range("form with one event", 0, 1, (x, form) -> x.odds(form, 0, 0));
         range("form with two", 2, 4, (x, form) -> x.odds(form, 0, 1));

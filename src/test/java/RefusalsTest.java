@@ -180,7 +180,8 @@ public final class RefusalsTest {
             for (int what = 0; what < 3; what++) {
                 seen.add((long) x.prophet(n % 5, what));
             }
-            seen.add((long) x.saying(x.count(3) - 1, 0));
+            seen.add((long) x.saying(0, 1));
+            seen.add((long) x.saying(x.count(3) - 1, 1));
         }
     }
 
@@ -269,7 +270,7 @@ public final class RefusalsTest {
 
     /** That the probes see what they are for: each of these changes something that one of them sees. */
     private static void twinsAreAlike() {
-        CHECK.says("(what the test sees)");
+        CHECK.says("[what the test sees]");
         Call[] changes = {
             x -> x.row(3, 0, 0), x -> x.row(0, 0, 4), x -> x.row(0, 1, 3), x -> x.set(0, 0, 20), x -> x.set(1, 39, 30),
             x -> x.copy(0, 0, 0, 2, 1), x -> x.drop(2), x -> x.feed('w'), x -> x.republic(), x -> x.undo(),
@@ -588,8 +589,10 @@ public final class RefusalsTest {
         for (int n = 0; n < acts.length; n++) {
             CHECK.holds("act " + n + " is one", acts[n].on(busy()) >= 0);
             expectAlike("act " + n, RefusalsTest::busy, new Call[] {acts[n], x -> x.undo()}, new Call[0]);
-            Call[] twice = {acts[n], x -> x.year(3), x -> x.undo(), x -> x.undo()};
-            expectAlike("act " + n + " and a year", RefusalsTest::busy, twice, new Call[0]);
+            Call[] withAYear = {acts[n], x -> x.year(3), x -> x.undo(), x -> x.undo()};
+            expectAlike("act " + n + " and a year", RefusalsTest::busy, withAYear, new Call[0]);
+            Call[] withASaying = {acts[n], x -> x.say(1, 1, 2, 2), x -> x.undo(), x -> x.undo()};
+            expectAlike("act " + n + " and a saying", RefusalsTest::busy, withASaying, new Call[0]);
         }
     }
 }

@@ -140,7 +140,7 @@ public final class RowEdgesTest {
     }
 
     private static void lowestBitsOfBytes() {
-        CHECK.says("its lowest bits, as many as the LANE has: what it is then (bytes)");
+        CHECK.says("its lowest bits, as many as the LANE has: what it is then [bytes]");
         ProphetFines x = new ProphetFines();
         x.row(0, 0, 2);
         expectCut(x, 0, 0, 0, 1, 1, -1, -1, 127, 127, 128, -128, 129, -127, 255, -1, 256, 0, 257, 1);
@@ -149,7 +149,7 @@ public final class RowEdgesTest {
     }
 
     private static void lowestBitsOfShorts() {
-        CHECK.says("its lowest bits, as many as the LANE has: what it is then (shorts)");
+        CHECK.says("its lowest bits, as many as the LANE has: what it is then [shorts]");
         ProphetFines x = new ProphetFines();
         x.row(0, 1, 2);
         expectCut(x, 0, 0, 0, -1, -1, 127, 127, 128, 128, 255, 255, 256, 256, -129, -129);
@@ -159,7 +159,7 @@ public final class RowEdgesTest {
     }
 
     private static void lowestBitsOfInts() {
-        CHECK.says("its lowest bits, as many as the LANE has: what it is then (ints)");
+        CHECK.says("its lowest bits, as many as the LANE has: what it is then [ints]");
         ProphetFines x = new ProphetFines();
         x.row(0, 2, 2);
         for (int v : new int[] {0, 1, -1, 128, 255, 256, -129, 32768, 65535, 65536, -32769, MAX, MAX - 1, MIN, MIN + 1}) {
@@ -169,7 +169,7 @@ public final class RowEdgesTest {
 
     /** 254 is -2 as a byte, below what could() takes; 255 is -1, which tells nothing; 256 is 0. */
     private static void copyKeepsLowestBits() {
-        CHECK.says("ITEM i becomes v, its lowest bits (as could() and copy() find it then)");
+        CHECK.says("ITEM i becomes v, its lowest bits [as could() and copy() find it then]");
         ProphetFines x = Check.reader();
         for (int lane = 0; lane < LANES; lane++) {
             int more = lane == 0 ? 256 : lane == 1 ? 65536 : 0;
@@ -198,7 +198,7 @@ public final class RowEdgesTest {
     }
 
     private static void setPlaces() {
-        CHECK.says("set: BAD: ROW; NULL; PLACE");
+        CHECK.says("what it is then. BAD: ROW; NULL; PLACE");
         ProphetFines x = Check.reader();
         Check.fill(x, 0, 1, 2, 3);
         x.row(1, 0, 0);
@@ -281,7 +281,7 @@ public final class RowEdgesTest {
     }
 
     private static void copyOfNone() {
-        CHECK.says("n ITEMS of a from i on come to b from j on: n (none)");
+        CHECK.says("n ITEMS of a from i on come to b from j on [none of them]");
         ProphetFines x = Check.reader();
         Check.fill(x, 0, 1, 2);
         x.row(1, 2, 0);
@@ -295,7 +295,7 @@ public final class RowEdgesTest {
     }
 
     private static void copyOfAll() {
-        CHECK.says("n ITEMS of a from i on come to b from j on: n (all 40)");
+        CHECK.says("n ITEMS of a from i on come to b from j on [all 40]");
         ProphetFines x = Check.reader();
         x.row(0, 2, MOST);
         x.row(7, 2, MOST);

@@ -18,6 +18,7 @@ public final class SayingEdgesTest {
         oddsAtTheEdges();
         twelveStand();
         inTheOrderSaid();
+        howManyOfHis();
         lastIsTakenBack();
         setsOfAYear();
         setsOfFineAndNet();
@@ -35,6 +36,7 @@ public final class SayingEdgesTest {
         twentyFourActs();
         eachActIsUndone();
         latestFirst();
+        undoneIsWhatWasSaid();
         undoneMakesRoom();
         whatIsNoAct();
         chanceFrom1To19();
@@ -42,6 +44,7 @@ public final class SayingEdgesTest {
         drawsAtTheEdgeOfAChance();
         drawsInOrder();
         drawnYearIsAYear();
+        upTo512Calls();
         yearsUpTo999();
         CHECK.end();
     }
@@ -126,7 +129,7 @@ public final class SayingEdgesTest {
     }
 
     private static void oddsAtTheEdges() {
-        CHECK.says("ODDS of a WORDING. BAD (the least and the most)");
+        CHECK.says("ODDS of a WORDING. BAD [the least and the most]");
         ProphetFines x = Check.told("f1,0;v1;v1;v19;v19;");
         CHECK.due("BOTH of 1 and 1", x.odds(BOTH, 0, 1), 1);
         CHECK.due("EITHER of 1 and 1", x.odds(EITHER, 0, 1), 39);
@@ -173,6 +176,25 @@ public final class SayingEdgesTest {
             }
             CHECK.due("whether " + s + " is the first", x.saying(s, 4), s == 5 ? 0 : 1);
         }
+    }
+
+    private static void howManyOfHis() {
+        CHECK.says("4 how many SAYINGS of his stand");
+        ProphetFines x = Check.told(ALL_KINDS);
+        for (int n = 1; n <= 12; n++) {
+            x.say(n <= 6 ? W : I, SURE, 0, 0);
+            CHECK.due("of the first prophet", x.prophet(W, 4), Math.min(n, 6));
+            CHECK.due("of the last", x.prophet(I, 4), Math.max(n - 6, 0));
+            CHECK.due("of another", x.prophet(L, 4), 0);
+        }
+        x.unsay();
+        CHECK.due("one was taken back", x.prophet(I, 4), 5);
+        x.year(0);
+        CHECK.due("none behind a year", x.prophet(W, 4), 0);
+        for (int n = 1; n <= 12; n++) {
+            x.say(O, SURE, 0, 0);
+        }
+        CHECK.due("all twelve", x.prophet(O, 4), 12);
     }
 
     private static void lastIsTakenBack() {
@@ -261,7 +283,7 @@ public final class SayingEdgesTest {
     }
 
     private static void fineFromLeastToMost() {
-        CHECK.says("FINE of a TRUE one (the least and the most)");
+        CHECK.says("FINE of a TRUE one [the least and the most]");
         ProphetFines least = Check.told("f20,0;v19;v19;w0;l0;a0;");
         ProphetFines most = Check.told("f20,50;v1;v1;w0;l0;a0;");
         int[] dueOfMost = {79 + 50, (79 + 50) / 2, 2 * (79 + 50)};
@@ -299,7 +321,7 @@ public final class SayingEdgesTest {
         for (int s = 0; s < isFirst.length; s++) {
             CHECK.due("saying " + s, x.saying(s, 4), isFirst[s]);
         }
-        CHECK.says("FIRST more, if none ahead of it has the same WORDING (taken back; in another YEAR)");
+        CHECK.says("FIRST more, if none ahead of it has the same WORDING [taken back; in another YEAR]");
         while (x.count(3) > 0) {
             x.unsay();
         }
@@ -434,7 +456,7 @@ public final class SayingEdgesTest {
     }
 
     private static void yearWithoutSayings() {
-        CHECK.says("how many SAYINGS were TRUE (none stand)");
+        CHECK.says("how many SAYINGS were TRUE [none stand]");
         ProphetFines x = Check.told("f10,7;v5;");
         CHECK.due("no prophets", x.year(1), 0);
         CHECK.due("one year", x.count(4), 1);
@@ -502,8 +524,27 @@ public final class SayingEdgesTest {
         CHECK.due("as told", x.odds(SURE, 0, 0), 100);
     }
 
+    private static void undoneIsWhatWasSaid() {
+        CHECK.says("each can be undone, the latest first [another SAYING having come in its place]");
+        ProphetFines x = Check.told(ALL_KINDS);
+        x.say(L, BOTH, 0, 1);
+        x.unsay();
+        x.say(A, NOT, 1, 1);
+        x.year(0);
+        x.say(O, SURE, 0, 0);
+        int[][] due = {{A, NOT, 1, 1}, {}, {L, BOTH, 0, 1}};
+        x.undo();
+        for (int[] d : due) {
+            x.undo();
+            CHECK.due("how many stand", x.count(3), d.length / 4);
+            for (int what = 0; what < d.length; what++) {
+                CHECK.due("what " + what + " of it", x.saying(0, what), d[what]);
+            }
+        }
+    }
+
     private static void undoneMakesRoom() {
-        CHECK.says("24 at most are kept (some of them undone)");
+        CHECK.says("24 at most are kept [some of them undone]");
         ProphetFines x = Check.told("f1,0;v1;v1;w0;");
         for (int n = 0; n < 30; n++) {
             x.year(0);
@@ -531,7 +572,7 @@ public final class SayingEdgesTest {
     }
 
     private static void whatIsNoAct() {
-        CHECK.says("What is refused, or found, changes nothing (no ACT of it is kept)");
+        CHECK.says("What is refused, or found, changes nothing [no ACT of it is kept]");
         ProphetFines x = Check.told(ALL_KINDS);
         x.say(5, SURE, 0, 0);
         x.say(W, SURE, 0, 1);
@@ -646,7 +687,7 @@ public final class SayingEdgesTest {
     }
 
     private static void drawnYearIsAYear() {
-        CHECK.says("a YEAR comes (by a SEED as by told EVENTS)");
+        CHECK.says("a YEAR comes [by a SEED as by told EVENTS]");
         for (int seed = 1; seed <= 20; seed++) {
             ProphetFines drawn = Check.told(ALL_KINDS);
             ProphetFines told = Check.told(ALL_KINDS);
@@ -666,6 +707,26 @@ public final class SayingEdgesTest {
                 CHECK.due("count(" + what + ")", drawn.count(what), told.count(what));
             }
         }
+    }
+
+    /** A text, 37 years of 13 calls, and questions up to the last call that is promised. */
+    private static void upTo512Calls() {
+        CHECK.says("An object is used for at most 512 calls after it has been made");
+        ProphetFines x = Check.told("f20,50;v01;v1;a00;");
+        int calls = "f20,50;v01;v1;a00;".length() + 1;
+        for (int year = 1; year <= 37; year++) {
+            for (int n = 1; n <= 12; n++) {
+                CHECK.due("saying " + n + " of year " + year, x.say(0, BOTH, 0, 1), n);
+            }
+            CHECK.due("all are TRUE in year " + year, x.year(3), 12);
+            calls += 13;
+        }
+        for (; calls < 509; calls++) {
+            CHECK.due("RIGHT", x.prophet(0, 1), 37 * 12);
+        }
+        CHECK.due("call 510: PURSE", x.prophet(0, 0), -37 * (12 * 2 * 79 + 2 * 50));
+        CHECK.due("call 511: YEARS gone", x.count(4), 37);
+        CHECK.due("call 512: ACTS", x.undo(), 23);
     }
 
     /** Beyond the 512 calls of which the document speaks; but the bound is told, so it is kept. */

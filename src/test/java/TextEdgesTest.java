@@ -80,7 +80,7 @@ public final class TextEdgesTest {
     }
 
     private static void bytesOneByOne() {
-        CHECK.says("A byte comes behind the tape: how many it has");
+        CHECK.says("comes behind the tape: how many it has. BAD; FULL");
         ProphetFines x = new ProphetFines();
         for (int i = 0; i < LONGEST.length(); i++) {
             CHECK.due("byte " + i, x.feed(LONGEST.charAt(i)), i + 1);
@@ -219,7 +219,7 @@ public final class TextEdgesTest {
     }
 
     private static void heeds() {
-        CHECK.says("prophet: SORT HEED ; (.. 0 to 50");
+        CHECK.says("prophet: SORT HEED ; .. 0 to 50; PROPHETS");
         for (char sort : SORTS.toCharArray()) {
             expectNumbers(n -> "f5,7;v3;" + sort + n + ";", 9, 0, 50);
         }
@@ -309,6 +309,9 @@ public final class TextEdgesTest {
         CHECK.due("undo", x.undo(), Check.STATE);
         x.say(0, 0, 0, 0);
         CHECK.due("by the new law", x.fine(0, 1), 3 + 2);
+        CHECK.due("one without prophets", Check.tell(x, "f1,2;v3;v4;"), 2);
+        CHECK.due("no prophets", x.count(2), 0);
+        CHECK.due("no prophet 0", x.kind(0), Check.BAD);
         CHECK.due("the same text again", Check.tell(x, LONGEST), 6);
         for (int p = 0; p < 5; p++) {
             CHECK.due("PURSE of " + p, x.prophet(p, 0), 0);
@@ -378,6 +381,7 @@ public final class TextEdgesTest {
 
     private static void theEndOfEach() {
         CHECK.says("the end: how many bytes there are");
+        ProphetFines used = Check.told(LONGEST);
         for (int n = 0; n < LONGEST.length(); n++) {
             String part = LONGEST.substring(0, n);
             boolean isWhole = n > 7 && part.endsWith(";");
@@ -385,7 +389,10 @@ public final class TextEdgesTest {
                 expectRead(part, Math.min(6, (n - 7) / 4), Math.max(0, (n - 31) / 4));
             } else {
                 expectFault(part, n, 1);
+                CHECK.due(part + " where the whole stood before", Check.tell(used, part), -1000100 - n);
+                CHECK.due("the same whole again", Check.tell(used, LONGEST), 6);
             }
+            used = n % 3 == 0 ? Check.told(LONGEST) : used;
         }
     }
 
