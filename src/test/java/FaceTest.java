@@ -28,6 +28,8 @@ public final class FaceTest {
         members();
         classesInside();
         source();
+        libraryCalls();
+        methods();
         CHECK.end();
     }
 
@@ -93,9 +95,14 @@ public final class FaceTest {
         }
     }
 
-    private static void source() throws Exception {
-        String code = Files.readString(Path.of("src/main/java/ProphetFines.java"))
+    /** The class without its comments and texts. */
+    private static String code() throws Exception {
+        return Files.readString(Path.of("src/main/java/ProphetFines.java"))
                 .replaceAll("(?s)/\\*.*?\\*/", "").replaceAll("//[^\n]*", "").replaceAll("\"[^\"\n]*\"", "\"\"");
+    }
+
+    private static void source() throws Exception {
+        String code = code();
         for (String word : new String[] {"throw", "throws", "try", "catch", "finally", "synchronized", "assert",
                 "double", "float", "package", "\\w+Exact", "hashCode", "toString", "Thread", "Random"}) {
             CHECK.holds("no " + word, !Pattern.compile("\\b" + word + "\\b").matcher(code).find());
@@ -106,5 +113,37 @@ public final class FaceTest {
             CHECK.holds("import " + imports.group(1),
                     imports.group(1).matches("java\\.util\\.(Arrays|ArrayList|List|Iterator)"));
         }
+    }
+
+    /** Rule 4: what is called of the library's classes is on its list. */
+    private static void libraryCalls() throws Exception {
+        Matcher calls = Pattern.compile("\\b(Arrays|System|Math|Integer|Long|String|List|ArrayList)\\.(\\w+)").matcher(code());
+        while (calls.find()) {
+            CHECK.holds(calls.group() + " is on the list", calls.group().matches(
+                    "Arrays\\.(fill|copyOf|copyOfRange)|System\\.arraycopy|List\\.of"
+                    + "|(Math|Integer|Long)\\.(abs|max|min|compare|bitCount|floorDiv|floorMod)"));
+        }
+    }
+
+    /** Rules 5 and 11: how long methods are, how many numbers they take, and no block of static code. */
+    private static void methods() throws Exception {
+        Class<?>[] inside = ProphetFines.class.getDeclaredClasses();
+        Class<?>[] all = Arrays.copyOf(inside, inside.length + 1);
+        all[inside.length] = ProphetFines.class;
+        for (Class<?> c : all) {
+            for (Method m : c.getDeclaredMethods()) {
+                CHECK.holds(m + " takes seven at most", m.getParameterCount() <= 7);
+            }
+        }
+        String code = code();
+        CHECK.holds("no static block", !Pattern.compile("\\bstatic\\s*\\{").matcher(code).find());
+        Matcher bodies = Pattern.compile("(?ms)^(    |        )[^ \n}][^;\n]*\\) \\{$(.*?)^\\1\\}$").matcher(code);
+        int found = 0;
+        while (bodies.find()) {
+            found++;
+            CHECK.holds("sixty lines at most:" + bodies.group(2).lines().limit(3).toList(),
+                    bodies.group(2).lines().count() <= 60);
+        }
+        CHECK.holds("methods were found: " + found, found > 100);
     }
 }
