@@ -5,6 +5,7 @@ import java.lang.reflect.Modifier;
 import java.nio.file.Files;
 import java.nio.file.Path;
 import java.util.Arrays;
+import java.util.IdentityHashMap;
 import java.util.TreeSet;
 import java.util.regex.Matcher;
 import java.util.regex.Pattern;
@@ -30,6 +31,7 @@ public final class FaceTest {
         source();
         libraryCalls();
         methods();
+        room();
         CHECK.end();
     }
 
@@ -145,5 +147,37 @@ public final class FaceTest {
                     bodies.group(2).lines().count() <= 60);
         }
         CHECK.holds("methods were found: " + found, found > 100);
+    }
+
+    /** All calls of a run live in one room: so only what an object is made of makes objects, and no call does. */
+    private static void room() throws Exception {
+        Pattern madeOnce = Pattern.compile("final [\\w\\[\\]]+ \\w+ = new |(images|before)\\[\\w\\] = new Republic\\(\\);");
+        for (String line : code().split("\n")) {
+            if (line.matches(".*\\bnew\\b.*")) {
+                CHECK.holds("made once: " + line.strip(), madeOnce.matcher(line).find());
+            }
+        }
+        int objects = objectsOf(new ProphetFines(), new IdentityHashMap<>());
+        CHECK.holds("objects and arrays of one ProphetFines: " + objects, objects > 1 && objects <= 300);
+    }
+
+    private static int objectsOf(Object from, IdentityHashMap<Object, Object> seen) throws Exception {
+        if (from == null || from instanceof String || seen.put(from, from) != null) {
+            return 0;
+        }
+        int found = 1;
+        if (from instanceof Object[] parts) {
+            for (Object part : parts) {
+                found += objectsOf(part, seen);
+            }
+        } else if (!from.getClass().isArray()) {
+            for (Field f : from.getClass().getDeclaredFields()) {
+                if (!Modifier.isStatic(f.getModifiers()) && !f.getType().isPrimitive()) {
+                    f.setAccessible(true);
+                    found += objectsOf(f.get(from), seen);
+                }
+            }
+        }
+        return found;
     }
 }
